@@ -609,7 +609,7 @@ public final class PolyWork {
         int degree = NONE;
 
         Row(int room) {
-            numbers = new long[Math.max(1, room)];
+            numbers = new long[room < 1 ? 1 : room];
         }
 
         /** The row at an index of a list whose rows are made when they are first wanted. */

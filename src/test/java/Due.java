@@ -1,11 +1,16 @@
 /** Counts answers that are not as due. */
 final class Due {
-    private final String test;
+    private String test;
     private int calls;
     private int wrong;
 
     Due(String test) {
         this.test = test;
+    }
+
+    /** Another name for what follows. */
+    void name(String name) {
+        test = name;
     }
 
     void is(String call, long got, long want) {
