@@ -920,10 +920,10 @@ public final class PolyWork {
             return NONE;
         }
 
-        private void swapRows(int one, int other) {
+        private void swapRows(int upper, int lower) {
             for (int column = 0; column < size; column++) {
-                int k = one * size + column;
-                int l = other * size + column;
+                int k = upper * size + column;
+                int l = lower * size + column;
                 Row row = cells[k];
                 cells[k] = cells[l];
                 cells[l] = row;

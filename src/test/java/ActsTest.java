@@ -19,6 +19,7 @@ public final class ActsTest {
         powers();
         bigResultantsByY();
         manyPlain();
+        manyWhole();
         DUE.end();
     }
 
@@ -212,6 +213,11 @@ public final class ActsTest {
         DUE.is("DEGREE 42", w.apply(12, high, other), -4);
         int less = w.grid(new long[][] {{2, 0, 0, 1}, {}, {}, {}, {}, {5, 0, 0, 2}});
         DUE.is("DEGREE 38", w.work.degree(w.apply(12, high, less), 0), 38);
+        int fourth = w.grid(new long[][] {{1}, {}, {}, {}, {}, {}, {0, 0, 0, 0, 1}});
+        int heavy = w.grid(new long[][] {{}, {}, {}, {}, {2, 0, 0, 0, 1}});
+        DUE.is("DEGREE 40", w.work.degree(w.apply(12, fourth, heavy), 0), 40);
+        int heavier = w.grid(new long[][] {{}, {}, {}, {}, {}, {2, 0, 0, 0, 1}});
+        DUE.is("DEGREE 44", w.apply(12, fourth, heavier), -4);
         // The first column's only number is b's: rows have to change.
         int lone = w.grid(new long[][] {{0, 0, 0}, {0, 0, 0}, {0, 0, 1}});
         w.apply(12, lone, w.grid(new long[][] {{1, 0, 1}}));
@@ -297,6 +303,22 @@ public final class ActsTest {
             }
             w.power(a, random.nextLong() >>> 1, c);
             w.power(d, random.nextInt(100), b);
+        }
+    }
+
+    private static void manyWhole() {
+        Random random = new Random(9);
+        for (int round = 0; round < 150; round++) {
+            int p = PRIMES[random.nextInt(PRIMES.length)];
+            Pair w = new Pair(DUE, p);
+            int a = w.randomGrid(random, random.nextInt(12), random.nextInt(7), p);
+            int b = w.randomGrid(random, random.nextInt(5), random.nextInt(3), p);
+            int c = w.randomGrid(random, random.nextInt(7), 0, p);
+            for (int act = 0; act <= 7; act++) {
+                w.apply(act, a, b);
+                w.apply(act, a, c);
+                w.apply(act, b, a);
+            }
         }
     }
 }

@@ -8,16 +8,15 @@ import java.util.ArrayList;
 import java.util.Arrays;
 import java.util.List;
 import java.util.TreeSet;
-import java.util.regex.Matcher;
 import java.util.regex.Pattern;
 
 /** The public face, and those rules of LANGUAGE.md that can be seen from outside or in the text. */
 public final class FaceTest {
     private static final Due DUE = new Due("FaceTest");
     private static final String[] FACE = {
-        "boolean drop(int)", "boolean prime(int)", "boolean same(int,int)", "int apply(int,int,int)", "int at(int,int,int)",
-        "int constant(long)", "int degree(int,int)", "int factor(int)", "int factorAt(int,int)", "int factorOf(int,int)",
-        "int interpolate()", "int part(int,int)", "int plus(int,long,int,int)", "int point(long,long)",
+        "boolean drop(int)", "boolean prime(int)", "boolean same(int,int)", "int apply(int,int,int)",
+        "int at(int,int,int)", "int constant(long)", "int degree(int,int)", "int factor(int)",
+        "int factorAt(int,int)", "int factorOf(int,int)", "int interpolate()", "int part(int,int)", "int plus(int,long,int,int)", "int point(long,long)",
         "int power(int,long,int)", "int root(int)", "int take(int)", "int told(int)", "int value(int,long,long)",
         "int variable(int)"};
     private static final String[] OUTSIDE = {"throw", "try", "catch", "synchronized", "assert", "import", "package",
@@ -32,7 +31,7 @@ public final class FaceTest {
 
     private static void face() {
         Class<?> type = PolyWork.class;
-        DUE.is("public and final", Modifier.isPublic(type.getModifiers()) && Modifier.isFinal(type.getModifiers()), true);
+        DUE.is("public and final", type.getModifiers(), Modifier.PUBLIC | Modifier.FINAL);
         DUE.is("one constructor", type.getDeclaredConstructors().length, 1);
         DUE.is("without arguments", type.getConstructors()[0].getParameterCount(), 0);
         TreeSet<String> methods = new TreeSet<>();
@@ -76,11 +75,12 @@ public final class FaceTest {
 
     private static void text() throws Exception {
         byte[] bytes = Files.readAllBytes(Path.of("src/main/java/PolyWork.java"));
-        String text = new String(bytes, StandardCharsets.UTF_8).replaceAll("(?s)/\\*.*?\\*/", "").replaceAll("//.*", "");
+        String all = new String(bytes, StandardCharsets.UTF_8);
+        String text = all.replaceAll("(?s)/\\*.*?\\*/", "").replaceAll("//.*", "");
         for (String word : OUTSIDE) {
-            boolean letters = Character.isLetter(word.charAt(0));
-            Matcher found = Pattern.compile(letters ? "\\b" + Pattern.quote(word) + "\\b" : Pattern.quote(word)).matcher(text);
-            DUE.is("'" + word + "' in the text", found.find(), false);
+            String edge = Character.isLetter(word.charAt(0)) ? "\\b" : "";
+            boolean found = Pattern.compile(edge + Pattern.quote(word) + edge).matcher(text).find();
+            DUE.is("'" + word + "' in the text", found, false);
         }
         int start = 0;
         String[] lines = text.split("\n");

@@ -14,6 +14,7 @@ public final class PlacesTest {
         alike();
         drops();
         noRoom();
+        twoObjects();
         DUE.end();
     }
 
@@ -242,5 +243,22 @@ public final class PlacesTest {
         w.drop(50);
         DUE.is("room again", w.interpolate(), 50);
         DUE.is("its number", w.at(50, 0, 0), 3);
+    }
+
+    private static void twoObjects() {
+        PolyWork v = new PolyWork();
+        PolyWork w = new PolyWork();
+        v.prime(5);
+        w.prime(7);
+        DUE.is("first", v.constant(6), 0);
+        DUE.is("second", w.constant(6), 0);
+        DUE.is("first", v.at(0, 0, 0), 1);
+        DUE.is("second", w.at(0, 0, 0), 6);
+        v.variable(0);
+        v.factor(1);
+        v.point(1, 1);
+        DUE.is("the second has no FACTORS", w.told(3), -1);
+        DUE.is("the second has no points", w.point(1, 1), 1);
+        DUE.is("the second has no x", w.at(1, 1, 0), -1);
     }
 }
