@@ -28,6 +28,7 @@ public final class ActEdgesTest {
         insteadOfYInY();
         insteadOfNumbers();
         insteadTakesAny();
+        insteadBySums();
         derivativesByX();
         derivativesByY();
         divisionDegrees();
@@ -333,6 +334,27 @@ public final class ActEdgesTest {
         int line = Make.plain(w, 1, 1);
         DUE.holds("x^40 of x + 1 is (x^8 + 1)^5", w, w.apply(4, x40, line), t(1, 0, 0), t(1, 8, 0), t(1, 32, 0),
             t(1, 40, 0));
+    }
+
+    /** 4, 5 "told from the greatest power by times b and plus": sums may stay low where b's powers alone do not. */
+    private static void insteadBySums() {
+        PolyWork w = Make.field(7);
+        int x30 = Make.term(w, 1, 30, 0);
+        int a = Make.whole(w, t(1, 0, 2), t(6, 30, 1), t(5, 0, 0));
+        DUE.row("(y - x^30) y + 5 of x^30", w, w.apply(5, a, x30), 5);
+        DUE.is("(y + x^30) y + 5 of x^30", w.apply(5, Make.whole(w, t(1, 0, 2), t(1, 30, 1), t(5, 0, 0)), x30), -4);
+        int b = Make.whole(w, t(1, 0, 2), t(6, 30, 1), t(1, 10, 1), t(5, 0, 0));
+        DUE.holds("(y - x^30 + x^10) y + 5 of x^30", w, w.apply(5, b, x30), t(1, 40, 0), t(5, 0, 0));
+        int c = Make.whole(w, t(1, 0, 2), t(6, 30, 1), t(1, 11, 1), t(6, 40, 0));
+        DUE.is("(y - x^30 + x^11) y - x^40 of x^30", w.apply(5, c, x30), -4);
+        int y5 = Make.term(w, 1, 0, 5);
+        int d = Make.whole(w, t(1, 2, 0), t(6, 1, 5), t(2, 0, 0));
+        DUE.row("(x - y^5) x + 2 of y^5", w, w.apply(4, d, y5), 2);
+        DUE.is("(x + y^5) x + 2 of y^5", w.apply(4, Make.whole(w, t(1, 2, 0), t(1, 1, 5), t(2, 0, 0)), y5), -4);
+        int e = Make.whole(w, t(1, 2, 0), t(6, 1, 5), t(1, 1, 1), t(2, 0, 0));
+        DUE.holds("(x - y^5 + y) x + 2 of y^5", w, w.apply(4, e, y5), t(1, 0, 6), t(2, 0, 0));
+        int f = Make.whole(w, t(1, 2, 0), t(6, 1, 5), t(1, 1, 2), t(2, 0, 0));
+        DUE.is("(x - y^5 + y^2) x + 2 of y^5", w.apply(4, f, y5), -4);
     }
 
     /** 6 at its ends: x^40, x, numbers, and powers that p divides. */

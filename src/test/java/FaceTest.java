@@ -46,7 +46,13 @@ public final class FaceTest {
         for (Field field : type.getDeclaredFields()) {
             boolean open = !Modifier.isPrivate(field.getModifiers());
             DUE.is(field + " is open", open, field.getName().equals("NONE"));
+            if (open) {
+                int kind = Modifier.PUBLIC | Modifier.STATIC | Modifier.FINAL;
+                DUE.is(field + " is a constant", field.getModifiers(), kind);
+                DUE.is(field + " is an int", field.getType() == int.class, true);
+            }
         }
+        DUE.is("NONE", PolyWork.NONE, -1);
     }
 
     private static void inside() {
